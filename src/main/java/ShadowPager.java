@@ -352,9 +352,6 @@ public final class ShadowPager {
             return refuse(NO_SUCH);
         }
         int all = live.hitCount + live.faults;
-        if (all == 0 || live.hitCount == 0) {
-            return answer(bit(lower));
-        }
         int shared = divisor(all, live.hitCount);
         if (shared == 0) {
             return answer(bit(lower));
@@ -463,18 +460,18 @@ public final class ShadowPager {
 
     public boolean give(int f, int host, boolean writes) {
         if (!isFrame(f)) {
-            return refuse(NO_SUCH) >= 0;
+            return declines(NO_SUCH);
         }
         if (host < 0 || host >= HOST_FRAMES) {
-            return refuse(BAD_NUMBER) >= 0;
+            return declines(BAD_NUMBER);
         }
         if (live.guest.isBacked(f) || live.guest.isTaken(host)) {
-            return refuse(NOT_SO) >= 0;
+            return declines(NOT_SO);
         }
         keep();
         live.guest.backWith(f, host, writes);
         live.guest.unmark(f);
-        return answer(0) >= 0;
+        return agrees();
     }
 
     public int protect(int f) {
@@ -502,12 +499,12 @@ public final class ShadowPager {
 
     public boolean undo() {
         if (kept == 0) {
-            return refuse(NO_ACT) >= 0;
+            return declines(NO_ACT);
         }
         live.scene.copyFrom(ring[newest & (UNDO_ROOM - 1)]);
         newest = (newest + UNDO_ROOM - 1) & (UNDO_ROOM - 1);
         kept--;
-        return answer(0) >= 0;
+        return agrees();
     }
 
     public int image() {
@@ -524,11 +521,11 @@ public final class ShadowPager {
 
     public boolean back(int image) {
         if (image < 0 || image >= pictured || image >= IMAGE_ROOM) {
-            return refuse(NO_SUCH) >= 0;
+            return declines(NO_SUCH);
         }
         live.scene.copyFrom(pictures[image]);
         kept = 0;
-        return answer(0) >= 0;
+        return agrees();
     }
 
     // ---- what is told
@@ -542,11 +539,11 @@ public final class ShadowPager {
     }
 
     public int size(int what) {
-        if (what == 11) {
-            return text.taped;
-        }
         if (what < 0 || what > 11) {
             return NONE;
+        }
+        if (what == 11) {
+            return text.taped;
         }
         if (!ready) {
             return 0;
@@ -580,6 +577,16 @@ public final class ShadowPager {
     private int answer(int value) {
         refusal = 0;
         return value;
+    }
+
+    private boolean declines(int number) {
+        refusal = number;
+        return false;
+    }
+
+    private boolean agrees() {
+        refusal = 0;
+        return true;
     }
 
     private void begin() {
@@ -620,26 +627,22 @@ public final class ShadowPager {
 
     private boolean mayRun(int pool) {
         if (!ready) {
-            refuse(NO_SUCH);
-            return false;
+            return declines(NO_SUCH);
         }
         if (pool < LEAST_POOL || pool > MOST_POOL) {
-            refuse(BAD_NUMBER);
-            return false;
+            return declines(BAD_NUMBER);
         }
-        return true;
+        return agrees();
     }
 
     private boolean mayDraw(int seed, int n) {
         if (!ready) {
-            refuse(NO_SUCH);
-            return false;
+            return declines(NO_SUCH);
         }
         if (seed < 0 || seed > HIGHEST_SEED || n < 0 || n > MOST_DRAWN) {
-            refuse(BAD_NUMBER);
-            return false;
+            return declines(BAD_NUMBER);
         }
-        return true;
+        return agrees();
     }
 
     private void runTold(int pool) {
@@ -730,7 +733,7 @@ public final class ShadowPager {
         }
 
         int wordAt(int f, int i) {
-            return words[spot(f, i)];
+            return words[(f & (FRAMES - 1)) * PLACES + (i & (PLACES - 1))];
         }
 
         void setWord(int f, int i, int word) {
@@ -772,15 +775,11 @@ public final class ShadowPager {
 
         void backWith(int f, int host, boolean writes) {
             hosts[f & (FRAMES - 1)] = host;
-            makeReadOnly(f);
-            if (writes) {
-                writable |= 1 << f;
-            }
+            writable = writes ? writable | 1 << f : writable & ~(1 << f);
         }
 
         void takeAway(int f) {
             hosts[f & (FRAMES - 1)] = NOTHING;
-            makeReadOnly(f);
         }
 
         void makeReadOnly(int f) {
@@ -824,8 +823,9 @@ public final class ShadowPager {
             return frameIn(wordAt(frameIn(upper), v));
         }
 
+        /** The eight frames of a large page begin at 0, or at 8: the highest bit of its frame. */
         static int firstOfLarge(int word) {
-            return frameIn(word) < PLACES ? 0 : PLACES;
+            return (word >> 8) & PLACES;
         }
 
         int frameBehind(int v) {
@@ -959,7 +959,7 @@ public final class ShadowPager {
         }
 
         int entryAt(int n, int i) {
-            return entries[spot(n, i)];
+            return entries[(n & (MOST_POOL - 1)) * PLACES + (i & (PLACES - 1))];
         }
 
         void tell(int n, int i, int what, boolean write, boolean user) {
@@ -986,8 +986,10 @@ public final class ShadowPager {
             owners[n & (MOST_POOL - 1)] = NOTHING;
             births[n & (MOST_POOL - 1)] = 0;
             astray &= ~(1 << n);
-            for (int i = 0; i < PLACES; i++) {
-                remove(n, i);
+            for (int at = 0; at < MOST_POOL * PLACES; at++) {
+                if (at / PLACES == n) {
+                    entries[at] = NOTHING;
+                }
             }
         }
 
@@ -1039,26 +1041,24 @@ public final class ShadowPager {
             vacate(gone);
         }
 
+        /** Takes a table that is free. */
         void make(int n, int kind, int owner) {
-            vacate(n);
             clock++;
             kinds[n & (MOST_POOL - 1)] = kind;
             owners[n & (MOST_POOL - 1)] = owner;
             births[n & (MOST_POOL - 1)] = clock;
         }
 
+        // in both of these: NOTHING by 4, the lower whole, is -1, which is no table and no frame
+
         private boolean isRootEntry(int at, int table) {
-            return kindOf(at / PLACES) == ROOT && tells(at, table);
+            return kinds[(at / PLACES) & (MOST_POOL - 1)] == ROOT
+                    && entries[at & (MOST_POOL * PLACES - 1)] >> 2 == table;
         }
 
         private boolean isMap(int at, int f) {
-            int kind = kindOf(at / PLACES);
-            return (kind == LEAF || kind == BROKEN) && tells(at, f);
-        }
-
-        private boolean tells(int at, int what) {
-            int entry = entries[at & (MOST_POOL * PLACES - 1)];
-            return entry >= 0 && entry / 4 == what;
+            int kind = kinds[(at / PLACES) & (MOST_POOL - 1)];
+            return (kind == LEAF || kind == BROKEN) && entries[at & (MOST_POOL * PLACES - 1)] >> 2 == f;
         }
 
         int countMaps(int f, int bits) {
@@ -1091,26 +1091,21 @@ public final class ShadowPager {
             return count;
         }
 
-        /** The table that a page's entry in the root of the frame top tells. */
-        int lowerTable(int top, int v) {
+        /** A page's entry in the root of the frame top, or NOTHING. */
+        int upperEntry(int top, int v) {
             int root = find(ROOT, top);
-            int upper = root >= 0 ? entryAt(root, v / PLACES) : NOTHING;
-            return upper >= 0 ? upper / 4 : NOTHING;
+            return root >= 0 ? entryAt(root, v / PLACES) : NOTHING;
         }
 
         /** The last entry by which the hardware hits, or NOTHING. */
         int hitEntry(int top, int v, int mode) {
-            int lower = lowerTable(top, v);
+            int upper = upperEntry(top, v);
+            int lower = upper >= 0 ? entryAt(upper / 4, v) : NOTHING;
             if (lower < 0) {
                 return NOTHING;
             }
-            int upperEntry = entryAt(find(ROOT, top), v / PLACES);
-            int lowerEntry = entryAt(lower, v);
-            if (upperEntry < 0 || lowerEntry < 0) {
-                return NOTHING;
-            }
             int need = (has(mode, TO_WRITE) ? MAY_WRITE : 0) + (has(mode, AS_USER) ? MAY_USER : 0);
-            return has(upperEntry & lowerEntry, need) ? lowerEntry : NOTHING;
+            return has(upper & lower, need) ? lower : NOTHING;
         }
 
         /** What a trapped store at a place of a frame does to the tables of it. */
@@ -1295,10 +1290,10 @@ public final class ShadowPager {
                 return;
             }
             traps++;
-            int lower = pool.lowerTable(guest.top, v);
+            int upper = pool.upperEntry(guest.top, v);
             pool.loosen(f, i);
-            if (lower >= 0 && !pool.watches(f)) {
-                pool.allowWrite(lower, v);
+            if (upper >= 0 && !pool.watches(f)) {
+                pool.allowWrite(upper / 4, v);
             }
         }
 
@@ -1337,8 +1332,8 @@ public final class ShadowPager {
         }
 
         int forget(int v) {
-            int lower = pool.lowerTable(guest.top, v);
-            return lower >= 0 ? pool.remove(lower, v) : 0;
+            int upper = pool.upperEntry(guest.top, v);
+            return upper >= 0 ? pool.remove(upper / 4, v) : 0;
         }
 
         int putPastWatching(int f, int i, int value) {
@@ -1714,9 +1709,9 @@ public final class ShadowPager {
             advance();
             switch (sort) {
                 case HOST_LINE: return readsHost(told);
-                case WORD_LINE: return readsWord(told);
+                case WORD_LINE: return readsWord(told, true);
                 case RUN_LINE: return readsRun(told);
-                case UNSURE_LINE: return readsUnsure(told);
+                case UNSURE_LINE: return readsWord(told, false);
                 default: return readsSaw(told);
             }
         }
@@ -1799,7 +1794,8 @@ public final class ShadowPager {
             return true;
         }
 
-        private boolean readsWord(Told told) {
+        /** A word that is told, or one of which nobody is sure: a frame, a place, what is there. */
+        private boolean readsWord(Told told, boolean sure) {
             if (!isWhole(0, FRAMES - 1)) {
                 return false;
             }
@@ -1809,66 +1805,50 @@ public final class ShadowPager {
                 return false;
             }
             int i = value;
-            if (told.toldWord(f, i)) {
+            if (sure ? told.toldWord(f, i) : told.doubted(f, i)) {
                 return fails(TWICE);
             }
             advance();
             if (!isWhole(0, HIGHEST_WORD)) {
                 return false;
             }
-            told.addWord(f, i, value);
+            if (sure) {
+                told.addWord(f, i, value);
+            } else {
+                told.addDoubt(f, i, value);
+            }
             advance();
             return true;
         }
 
-        private boolean readsUnsure(Told told) {
-            if (!isWhole(0, FRAMES - 1)) {
-                return false;
-            }
-            int f = value;
-            advance();
-            if (!isWhole(0, PLACES - 1)) {
-                return false;
-            }
-            int i = value;
-            if (told.doubted(f, i)) {
-                return fails(TWICE);
-            }
-            advance();
-            if (!isWhole(0, HIGHEST_WORD)) {
-                return false;
-            }
-            told.addDoubt(f, i, value);
-            advance();
-            return true;
-        }
-
-        private boolean readsRun(Told told) {
+        /** Stays at the mode; the way goes into value. */
+        private boolean isWay() {
             if (!isWhole(0, PAGES - 1)) {
                 return false;
             }
-            int v = value;
             advance();
             int mode = modeNamed();
             if (mode < 0) {
                 return fails(FORM);
             }
-            told.addStep(v * MODES + mode);
+            value = value * MODES + mode;
+            return true;
+        }
+
+        private boolean readsRun(Told told) {
+            if (!isWay()) {
+                return false;
+            }
+            told.addStep(value);
             advance();
             return true;
         }
 
         private boolean readsSaw(Told told) {
-            if (!isWhole(0, PAGES - 1)) {
+            if (!isWay()) {
                 return false;
             }
-            int v = value;
-            advance();
-            int mode = modeNamed();
-            if (mode < 0) {
-                return fails(FORM);
-            }
-            int way = v * MODES + mode;
+            int way = value;
             if (told.sighted(way)) {
                 return fails(TWICE);
             }

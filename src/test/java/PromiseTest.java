@@ -41,6 +41,7 @@ public final class PromiseTest {
         t.dropping();
         t.largePages();
         t.runs();
+        t.zeros();
         t.sweepsAndDraws();
         t.rate();
         t.unsureWords();
@@ -230,7 +231,7 @@ public final class PromiseTest {
         bad(PLAIN, ";word 1 8 0", 4, 8);
         bad(PLAIN, ";word 1 7 4096", 4, 10);
         bad(PLAIN, ";run 64 r", 4, 5);
-        bad(PLAIN, ";unsure 16 0 0", 4, 8);
+        bad(PLAIN, ";unsure 15 0 0;unsure 16 0 0", 4, 22);
         bad(PLAIN, ";unsure 1 8 0", 4, 10);
         bad(PLAIN, ";unsure 1 7 9999", 4, 12);
         bad(PLAIN, ";saw 64 r done", 4, 5);
@@ -634,6 +635,71 @@ public final class PromiseTest {
         c.told(z, "a hit isn't refused", 1, z.runRefused(3));
         c.told(z, "poolFor", 3, z.poolFor(2));
         c.told(z, "poolFor", -2, z.poolFor(1));
+        ShadowPager w = Checks.of("machine pool 3 root 0;host 15 0 ro" + sevenLeaves()
+                + lines("run 0 r;run 8 r;run 16 r", 0, 1) + ";run 24 r;run 32 r;run 40 r;run 48 r;run 0 r;run 8 ur;run 16 r");
+        c.told(w, "runFaults", 10, w.runFaults(7));
+        c.told(w, "runFaults", 7, w.runFaults(8));
+        c.told(w, "runDrops", 4, w.runDrops(7));
+        c.told(w, "runDrops", 0, w.runDrops(8));
+        c.told(w, "poolFor", 8, w.poolFor(9));
+        c.told(w, "poolFor", 8, w.poolFor(7));
+        c.told(w, "poolFor", -2, w.poolFor(6));
+    }
+
+    /** A leaf, 1 to 7, behind each of the root's first words, the first word of each to frame 15. */
+    private static String sevenLeaves() {
+        StringBuilder s = new StringBuilder();
+        for (int f = 1; f <= 7; f++) {
+            s.append(";word 0 ").append(f - 1).append(' ').append(f * 256 + 7);
+            s.append(";word ").append(f).append(" 0 3847");
+        }
+        return s.toString();
+    }
+
+    /** Frame 0, host frame 0, page 0, table 0 and an entry that is 0 are as good as others. */
+    private void zeros() {
+        c.part("zeros");
+        ShadowPager x = Checks.of("machine pool 3 root 1;host 0 0 rw;host 2 2 rw;word 1 0 513;word 2 0 1;word 1 1 519;word 2 1 519;"
+                + "run 0 r;run 0 r;unsure 2 0 0;saw 0 r done;saw 0 w denied");
+        c.told(x, "look", 0, x.look(0, false, false));
+        c.told(x, "leads", 0, x.leads(0));
+        c.told(x, "rights", 1, x.rights(0));
+        c.told(x, "missing", 7, x.missing());
+        c.told(x, "runFaults", 1, x.runFaults(3));
+        c.told(x, "runRefused", 0, x.runRefused(3));
+        c.told(x, "fits", 1, x.fits());
+        c.told(x, "judge", -2, x.judge());
+        c.told(x, "access", 0, x.access(0, false, false));
+        c.told(x, "hits", 0, x.hits(0, false, false));
+        c.told(x, "entry", 0, x.entry(1, 0));
+        c.told(x, "entries there", 1, x.shadow(1, 3));
+        c.told(x, "maps", 1, x.maps(0));
+        c.told(x, "missing", 6, x.missing());
+        c.told(x, "access", 0, x.access(0, false, false));
+        c.told(x, "rate", 2, x.rate(true));
+        c.told(x, "sweep", 0, x.sweep(0, 0));
+        c.told(x, "trap", 2, x.store(9, 0, 0, false));
+        c.told(x, "stale, pages 0 and 8 by one mode each", 2, x.stale());
+        c.told(x, "staleAt", 0, x.staleAt());
+        c.told(x, "load", 1, x.load(1));
+        c.told(x, "entry", -2, x.entry(1, 0));
+        x.device(2, 0, 1);
+        c.told(x, "access", 0, x.access(0, false, false));
+        c.told(x, "device", 1, x.device(2, 0, 1));
+        c.told(x, "access", 0, x.access(0, false, false));
+        c.told(x, "flush", 1, x.flush(0));
+        c.told(x, "access", 0, x.access(0, false, false));
+        c.told(x, "unmap", 1, x.unmap(0));
+        c.told(x, "give", true, x.give(0, 0, true));
+        c.refused(x, "a give of 0 to another", 5, x.give(3, 0, true));
+        c.due("backed", 2, x.size(1));
+        // a leaf as table 0: the root made first is dropped by a root of another frame
+        ShadowPager y = Checks.of(LEAVES + ";word 7 0 7;word 7 7 1799;word 0 7 1799;host 7 7 rw;host 0 3 rw");
+        y.access(0, false, false);
+        y.access(8, false, false);
+        y.load(7);
+        c.told(y, "access", 3, y.access(7 * 8, true, true));
+        c.told(y, "root", 7, y.shadow(0, 1));
     }
 
     private void sweepsAndDraws() {
@@ -664,6 +730,13 @@ public final class PromiseTest {
         y.access(10, true, false);
         c.told(y, "with those now", 96, y.drawnMarks(1, 1));
         c.told(y, "drawnFaults", 0, y.drawnFaults(65536, 0));
+        // seed 1 goes on: 57305 (page 25), 38044 (r); then 35283 (page 19), 24819 (uw)
+        ShadowPager z = Checks.of("machine pool 3 root 0;host 5 5 rw;host 6 6 rw;word 0 2 263;word 0 3 263;word 1 1 1287;word 1 3 1543");
+        c.told(z, "drawnFaults", 3, z.drawnFaults(1, 3));
+        c.told(z, "drawnMarks", 64, z.drawnMarks(1, 3));
+        c.told(z, "drawnMarks", 0, z.drawnMarks(1, 2));
+        z.access(25, false, false);
+        c.told(z, "drawnFaults", 1, z.drawnFaults(1, 2));
         // seed 65,536: 75 * 65536 + 74 = 65536 mod 65537, a seed that stays: page 0, r
         c.told(y, "drawnFaults", 200, y.drawnFaults(65536, 200));
         for (int seed : new int[] {-1, 65537}) {
@@ -1222,58 +1295,114 @@ public final class PromiseTest {
         c.refused(x, "give", 2, x.give(1, 32, false));
     }
 
+    /** Another trouble ahead of a call, lest an old one pass for its own. */
+    private void afresh(ShadowPager x) {
+        c.due("undo", false, x.undo());
+        c.due("trouble", 6, x.trouble());
+    }
+
     private void withoutMachine() {
         c.part("no machine");
         ShadowPager x = new ShadowPager();
+        afresh(x);
         c.refused(x, "word", 1, x.word(0, 0));
+        afresh(x);
         c.refused(x, "backing", 1, x.backing(0));
+        afresh(x);
         c.refused(x, "writes", 1, x.writes(0));
+        afresh(x);
         c.refused(x, "root", 1, x.root());
+        afresh(x);
         c.refused(x, "marks", 1, x.marks());
+        afresh(x);
         c.refused(x, "wordsWith", 1, x.wordsWith(0, 0));
+        afresh(x);
         c.refused(x, "look", 1, x.look(0, false, false));
+        afresh(x);
         c.refused(x, "leads", 1, x.leads(0));
+        afresh(x);
         c.refused(x, "rights", 1, x.rights(0));
+        afresh(x);
         c.refused(x, "large", 1, x.large(0));
+        afresh(x);
         c.refused(x, "aliases", 1, x.aliases(0));
+        afresh(x);
         c.refused(x, "tables", 1, x.tables());
+        afresh(x);
         c.refused(x, "hits", 1, x.hits(0, false, false));
+        afresh(x);
         c.refused(x, "stale", 1, x.stale());
+        afresh(x);
         c.refused(x, "staleAt", 1, x.staleAt());
+        afresh(x);
         c.refused(x, "missing", 1, x.missing());
+        afresh(x);
         c.refused(x, "shadow", 1, x.shadow(0, 0));
+        afresh(x);
         c.refused(x, "entry", 1, x.entry(0, 0));
+        afresh(x);
         c.refused(x, "maps", 1, x.maps(0));
+        afresh(x);
         c.refused(x, "writers", 1, x.writers(0));
+        afresh(x);
         c.refused(x, "watched", 1, x.watched(0));
+        afresh(x);
         c.refused(x, "outOfStep", 1, x.outOfStep());
+        afresh(x);
         c.refused(x, "dropsNext", 1, x.dropsNext());
+        afresh(x);
         c.refused(x, "runFaults", 1, x.runFaults(9));
+        afresh(x);
         c.refused(x, "runRefused", 1, x.runRefused(9));
+        afresh(x);
         c.refused(x, "runDrops", 1, x.runDrops(9));
+        afresh(x);
         c.refused(x, "poolFor", 1, x.poolFor(11));
+        afresh(x);
         c.refused(x, "sweep", 1, x.sweep(1, 0));
+        afresh(x);
         c.refused(x, "drawnFaults", 1, x.drawnFaults(-1, 0));
+        afresh(x);
         c.refused(x, "drawnMarks", 1, x.drawnMarks(-1, 0));
+        afresh(x);
         c.refused(x, "rate", 1, x.rate(true));
+        afresh(x);
         c.refused(x, "fits", 1, x.fits());
+        afresh(x);
         c.refused(x, "fitAt", 1, x.fitAt(0));
+        afresh(x);
         c.refused(x, "could", 1, x.could());
+        afresh(x);
         c.refused(x, "surely", 1, x.surely());
+        afresh(x);
         c.refused(x, "ask", 1, x.ask());
+        afresh(x);
         c.refused(x, "askLeaves", 1, x.askLeaves());
+        afresh(x);
         c.refused(x, "judge", 1, x.judge());
+        afresh(x);
         c.refused(x, "access", 1, x.access(0, false, false));
+        afresh(x);
         c.refused(x, "store", 1, x.store(0, 0, 4096, false));
+        afresh(x);
         c.refused(x, "load", 1, x.load(0));
+        afresh(x);
         c.refused(x, "flush", 1, x.flush(0));
+        afresh(x);
         c.refused(x, "device", 1, x.device(0, 0, 4096));
+        afresh(x);
         c.refused(x, "unmap", 1, x.unmap(0));
+        afresh(x);
         c.refused(x, "give", 1, x.give(0, 32, true));
+        afresh(x);
         c.refused(x, "protect", 1, x.protect(0));
+        afresh(x);
         c.refused(x, "clean", 1, x.clean(0));
+        x.root();
         c.refused(x, "undo", 6, x.undo());
+        afresh(x);
         c.refused(x, "image", 1, x.image());
+        afresh(x);
         c.refused(x, "back", 1, x.back(0));
         c.due("led throws", true, ledThrows(x, 0));
     }
