@@ -1635,46 +1635,34 @@ public final class ShadowPager {
             while (from < length && byteAt(from) == ' ') {
                 from++;
             }
+            to = from;
             int c = byteAt(from);
-            to = from + 1;
-            if (c == NONE) {
-                token = END;
-                to = from;
-            } else if (c == ';') {
-                token = PART;
-            } else if (isSmall(c)) {
-                takeName();
+            if (isSmall(c)) {
+                while (to < length && isSmall(byteAt(to))) {
+                    to++;
+                }
+                token = to - from <= LONGEST_NAME ? NAME : ODD;
             } else if (isDigit(c)) {
-                takeWhole();
+                value = 0;
+                while (to < length && isDigit(byteAt(to))) {
+                    value = value * 10 + byteAt(to) - '0';
+                    to++;
+                }
+                token = to - from <= LONGEST_WHOLE ? WHOLE : ODD;
+            } else if (c == NONE) {
+                token = END;
             } else {
-                token = ODD;
-            }
-        }
-
-        private void takeName() {
-            while (to < length && isSmall(byteAt(to))) {
+                token = c == ';' ? PART : ODD;
                 to++;
-            }
-            token = to - from <= LONGEST_NAME ? NAME : ODD;
-        }
-
-        private void takeWhole() {
-            while (to < length && isDigit(byteAt(to))) {
-                to++;
-            }
-            token = to - from <= LONGEST_WHOLE ? WHOLE : ODD;
-            value = 0;
-            for (int p = from; p < to && token == WHOLE; p++) {
-                value = value * 10 + byteAt(p) - '0';
             }
         }
 
         private boolean isName(String name) {
-            if (token != NAME || to - from != name.length()) {
+            if (token != NAME || to - from != name.length() || from < 0 || to > TAPE_ROOM) {
                 return false;
             }
             for (int i = 0; i < name.length(); i++) {
-                if (byteAt(from + i) != name.charAt(i)) {
+                if (tape[from + i] != name.charAt(i)) {
                     return false;
                 }
             }
@@ -1826,12 +1814,13 @@ public final class ShadowPager {
             if (!isWhole(0, PAGES - 1)) {
                 return false;
             }
+            int v = value;
             advance();
             int mode = modeNamed();
             if (mode < 0) {
                 return fails(FORM);
             }
-            value = value * MODES + mode;
+            value = v * MODES + mode;
             return true;
         }
 

@@ -203,6 +203,10 @@ public final class PromiseTest {
         bad(PLAIN, ";saw 1 r don", 1, 9);
         bad(PLAIN, ";saw 1 r doner", 1, 9);
         bad(PLAIN, ";abcdefghi", 1, 1);
+        bad((PLAIN + " ".repeat(900)).substring(0, 893) + ";run 1 ", 1, 900);
+        bad((PLAIN + " ".repeat(900)).substring(0, 899) + ";", 1, 900);
+        bad("1".repeat(900), 1, 0);
+        bad("m".repeat(900), 1, 0);
     }
 
     private static String lines(String line, int from, int to) {
@@ -269,6 +273,10 @@ public final class PromiseTest {
         good(PLAIN + lines("run 5 r", 0, 10) + lines("unsure 1 # 9", 0, 4) + lines("saw # r gone", 0, 6), 3);
         good(PLAIN + ";word 1 1 1;unsure 1 1 1;saw 1 r done;saw 1 w done;saw 1 ur denied;saw 1 uw absent", 3);
         good(PLAIN + ";host 15 31 rw;host 0 0 ro", 3);
+        String full = " ".repeat(900);
+        good((PLAIN + full).substring(0, 891) + ";run 1 uw", 3);
+        good((PLAIN + full).substring(0, 889) + ";word 1 2 3", 3);
+        good((PLAIN + full).substring(0, 900), 3);
     }
 
     private void where() {
