@@ -11,6 +11,10 @@ final class Checks {
         part = name;
     }
 
+    int made() {
+        return made;
+    }
+
     void due(String call, long want, long got) {
         made++;
         if (want != got) {

@@ -2,23 +2,11 @@ import java.util.NoSuchElementException;
 
 /** Each promise of the document, by its number: ordinary inputs, edges, and wrong inputs. */
 public final class PromiseTest {
-    private static final String BASE = "machine pool 3 root 0;host 2 10 rw;host 3 11 ro;host 1 12 rw;host 9 13 rw;"
-            + "word 0 0 263;word 0 1 2083;word 1 0 519;word 1 1 771;word 1 2 263;word 1 3 517;"
-            + "run 0 r;run 0 w;run 9 r;run 9 w;run 1 w;run 5 r;unsure 1 0 0;saw 0 w done;saw 1 w denied";
-
-    /** Four leaves, one behind each of the first root's words, all to frame 5. */
-    private static final String LEAVES = "machine pool 3 root 0;host 5 5 rw;host 6 6 rw;word 0 0 263;word 0 1 519;"
-            + "word 0 2 775;word 0 3 1031;word 1 0 1287;word 2 0 1287;word 3 0 1287;word 4 0 1287;"
-            + "run 0 r;run 8 r;run 16 r;run 24 r;run 0 r;run 8 r";
-
-    /** Page 0 leads to frame 1, the leaf that all pages go by. */
-    private static final String SELF = "machine pool 4 root 0;host 1 11 rw;host 5 5 rw;host 6 6 rw;word 0 0 263;"
-            + "word 1 0 263;word 1 1 1287;word 1 2 1543;word 1 3 1287;word 1 4 1287";
-
-    /** Page 0 leads to frame 0, the root. */
-    private static final String ROOTED = "machine pool 3 root 0;host 0 20 rw;host 5 5 rw;word 0 0 263;word 1 0 7;word 1 1 1287";
-
-    private static final String PLAIN = "machine pool 3 root 0";
+    private static final String BASE = Texts.BASE;
+    private static final String LEAVES = Texts.LEAVES;
+    private static final String SELF = Texts.SELF;
+    private static final String ROOTED = Texts.ROOTED;
+    private static final String PLAIN = Texts.PLAIN;
     private static final int[] FAR = {Integer.MIN_VALUE, -2, -1, Integer.MAX_VALUE};
 
     private final Checks c = new Checks();
@@ -209,14 +197,6 @@ public final class PromiseTest {
         bad("m".repeat(900), 1, 0);
     }
 
-    private static String lines(String line, int from, int to) {
-        StringBuilder s = new StringBuilder();
-        for (int i = from; i < to; i++) {
-            s.append(';').append(line.replace("#", "" + i));
-        }
-        return s.toString();
-    }
-
     private void faultsOfSense() {
         c.part("promise 4, sense");
         bad(PLAIN, ";host 1 2 rw;host 1 3 rw", 3, 18);
@@ -239,13 +219,13 @@ public final class PromiseTest {
         bad(PLAIN, ";unsure 1 8 0", 4, 10);
         bad(PLAIN, ";unsure 1 7 9999", 4, 12);
         bad(PLAIN, ";saw 64 r done", 4, 5);
-        String hosts = PLAIN + lines("host # # rw", 0, 16);
+        String hosts = PLAIN + Texts.lines("host # # rw", 0, 16);
         bad(hosts, ";host 99 x", 5, 1);
-        String words = PLAIN + lines("word 0 # 9", 0, 8) + lines("word 1 # 9", 0, 8) + lines("word 2 # 9", 0, 8);
+        String words = PLAIN + Texts.mostWords();
         bad(words, ";word 3 0 0", 5, 1);
-        bad(PLAIN + lines("run # r", 0, 10), ";run", 5, 1);
-        bad(PLAIN + lines("unsure 1 # 9", 0, 4), "  ;  unsure", 5, 5);
-        bad(PLAIN + lines("saw # r gone", 0, 6), ";saw 7 r gone", 5, 1);
+        bad(PLAIN + Texts.lines("run # r", 0, 10), ";run", 5, 1);
+        bad(PLAIN + Texts.lines("unsure 1 # 9", 0, 4), "  ;  unsure", 5, 5);
+        bad(PLAIN + Texts.lines("saw # r gone", 0, 6), ";saw 7 r gone", 5, 1);
         bad("host 1", 6, 0);
         bad("  word", 6, 2);
         bad("run x", 6, 0);
@@ -268,9 +248,9 @@ public final class PromiseTest {
         good("  machine   pool 0003 root 0015  ", 3);
         good("machine pool8root0", 8);
         good("machine pool 3 root 0;host1 2rw;word 0 7 4095;run63uw;unsure0 7 4095;saw63uw gone", 3);
-        good(PLAIN + lines("host # # ro", 0, 16) + ";word 15 7 0 ; run 0 r", 3);
-        good(PLAIN + lines("word 0 # 9", 0, 8) + lines("word 1 # 9", 0, 8) + lines("word 2 # 9", 0, 8), 3);
-        good(PLAIN + lines("run 5 r", 0, 10) + lines("unsure 1 # 9", 0, 4) + lines("saw # r gone", 0, 6), 3);
+        good(PLAIN + Texts.lines("host # # ro", 0, 16) + ";word 15 7 0 ; run 0 r", 3);
+        good(PLAIN + Texts.mostWords(), 3);
+        good(PLAIN + Texts.lines("run 5 r", 0, 10) + Texts.lines("unsure 1 # 9", 0, 4) + Texts.lines("saw # r gone", 0, 6), 3);
         good(PLAIN + ";word 1 1 1;unsure 1 1 1;saw 1 r done;saw 1 w done;saw 1 ur denied;saw 1 uw absent", 3);
         good(PLAIN + ";host 15 31 rw;host 0 0 ro", 3);
         String full = " ".repeat(900);
@@ -643,8 +623,8 @@ public final class PromiseTest {
         c.told(z, "a hit isn't refused", 1, z.runRefused(3));
         c.told(z, "poolFor", 3, z.poolFor(2));
         c.told(z, "poolFor", -2, z.poolFor(1));
-        ShadowPager w = Checks.of("machine pool 3 root 0;host 15 0 ro" + sevenLeaves()
-                + lines("run 0 r;run 8 r;run 16 r", 0, 1) + ";run 24 r;run 32 r;run 40 r;run 48 r;run 0 r;run 8 ur;run 16 r");
+        ShadowPager w = Checks.of("machine pool 3 root 0;host 15 0 ro" + Texts.sevenLeaves()
+                + Texts.lines("run 0 r;run 8 r;run 16 r", 0, 1) + ";run 24 r;run 32 r;run 40 r;run 48 r;run 0 r;run 8 ur;run 16 r");
         c.told(w, "runFaults", 10, w.runFaults(7));
         c.told(w, "runFaults", 7, w.runFaults(8));
         c.told(w, "runDrops", 4, w.runDrops(7));
@@ -652,16 +632,6 @@ public final class PromiseTest {
         c.told(w, "poolFor", 8, w.poolFor(9));
         c.told(w, "poolFor", 8, w.poolFor(7));
         c.told(w, "poolFor", -2, w.poolFor(6));
-    }
-
-    /** A leaf, 1 to 7, behind each of the root's first words, the first word of each to frame 15. */
-    private static String sevenLeaves() {
-        StringBuilder s = new StringBuilder();
-        for (int f = 1; f <= 7; f++) {
-            s.append(";word 0 ").append(f - 1).append(' ').append(f * 256 + 7);
-            s.append(";word ").append(f).append(" 0 3847");
-        }
-        return s.toString();
     }
 
     /** Frame 0, host frame 0, page 0, table 0 and an entry that is 0 are as good as others. */
@@ -848,7 +818,7 @@ public final class PromiseTest {
         ShadowPager z = Checks.of(PLAIN + ";saw 0 r done");
         c.told(z, "no set", 0, z.fits());
         c.told(z, "judge", 0, z.judge());
-        ShadowPager a = Checks.of(PLAIN + lines("unsure 0 # 1", 0, 4));
+        ShadowPager a = Checks.of(PLAIN + Texts.lines("unsure 0 # 1", 0, 4));
         c.told(a, "all sets", 16, a.fits());
         c.told(a, "fitAt", 15, a.fitAt(15));
         c.refused(a, "fitAt", 1, a.fitAt(16));
